@@ -57,7 +57,8 @@ public final class BuildingTest {
             .due("parentOf(0, 8)", 5).due("parentOf(0, 4)", 0).due("kindOf(0, 3)", 3).due("labelOf(0, 3)", 99)
             .due("labelOf(0, 1)", 10).due("nodes(0)", 9).due("nodes(1)", 0);
         new Run("promise 3, tree 1").after("addRoot(1, 0, 0)").due("add(1, 0, 0, 3, 99)", 1).due("nodes(1)", 2)
-            .due("nodes(0)", 0).due("add(0, 0, 0, 0, 0)", Run.INDEX);
+            .due("nodes(0)", 0).due("add(0, 0, 0, 0, 0)", Run.INDEX).due("steps()", 2).due("add(1, 0, 0, 0, 0)", 2)
+            .due("steps()", 3);
         Run wrong = new Run("promise 3, wrong").due("add(0, 0, 0, 0, 0)", Run.INDEX).after("addRoot(0, 0, 0)",
             "add(0, 0, 0, 0, 1)").due("add(0, 2, 0, 0, 0)", Run.INDEX).due("add(0, 0, 2, 0, 0)", Run.INDEX)
             .due("add(0, 1, 1, 0, 0)", Run.INDEX).due("add(0, 0, 0, 4, 0)", Run.INDEX).due("add(2, 0, 0, 0, 0)", Run.INDEX)

@@ -13,6 +13,7 @@ public final class DistancesTest {
         }
         subtreeDistance();
         topDownDistance();
+        stars();
         similarity();
         Run.end("DistancesTest");
     }
@@ -65,6 +66,19 @@ public final class DistancesTest {
             "add(0, 0, 2, 3, 3)", "add(0, 2, 0, 0, 4)", "addRoot(1, 0, 0)", "add(1, 0, 0, 2, 2)", "add(1, 1, 0, 0, 5)",
             "add(1, 0, 1, 1, 1)", "add(1, 0, 2, 3, 9)").due("topDownDistance()", 4).due("distance()", 4)
             .after("setLabel(1, 2, 4)").due("topDownDistance()", 3);
+    }
+
+    /** Roots with 11 children each, the new ones shifted by one. */
+    private static void stars() {
+        Run run = new Run("promises 19 to 22, stars of 12 nodes").after("addRoot(0, 0, 0)", "addRoot(1, 0, 0)");
+        for (int node = 1; node < 12; node++) {
+            run.after("add(0, 0, " + (node - 1) + ", 1, " + node + ")", "add(1, 0, 0, 1, " + (13 - node) + ")");
+        }
+        run.due("topDownDistance()", 2).due("distance()", 2).due("distanceByForests()", 2).due("subtreeDistance(0, 0)", 2)
+            .due("pairs()", 11).due("partnerOf(1)", -1).due("partnerOf(2)", 11).due("partnerOf(11)", 2)
+            .after("setPrices(1, 50, 50, 50)").due("topDownDistance()", 100).due("distance()", 100)
+            .after("setPrices(1, 50, 50, 3)").due("topDownDistance()", 33).due("distance()", 33).due("distanceByForests()", 33)
+            .due("partnerOf(1)", 11);
     }
 
     private static void similarity() {

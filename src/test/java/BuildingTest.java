@@ -6,6 +6,7 @@ public final class BuildingTest {
         newObject();
         addRoot();
         add();
+        placesOfChildren();
         addToFullTree();
         setLabel();
         clear();
@@ -71,6 +72,28 @@ public final class BuildingTest {
                 .due("add(0, 0, 0, 0, " + value + ")", Run.ARGUMENT);
         }
         wrong.due("add(0, 0, 0, 0, 0)", 2);
+    }
+
+    /** "Children from its place on come one place later then", with their subtrees; those before stay. */
+    private static void placesOfChildren() {
+        for (int children = 0; children <= 10; children++) {
+            for (int place = 0; place <= children; place++) {
+                Run run = new Run("promise 3, place " + place + " of " + children).after(Grow.tree(1, Grow.star("0.0", children, "1.1")
+                    .replace("()", ""))).due("add(1, 0, " + place + ", 2, 2)", children + 1);
+                for (int now = 0; now <= children; now++) {
+                    int due = now < place ? now + 1 : now == place ? children + 1 : now;
+                    run.due("childAt(1, 0, " + now + ")", due).due("inPreorder(1, " + (now + 1) + ")", due);
+                }
+                run.due("children(1, 0)", children + 1).due("childAt(1, 0, " + (children + 1) + ")", Run.INDEX)
+                    .due("nodes(0)", 0);
+            }
+        }
+        new Run("promise 3, between subtrees").after(Grow.tree(0, "0.0(1.1(1.2 1.3(1.4)) 2.1(2.2))"))
+            .due("add(0, 0, 1, 3, 3)", 7).due("inPreorder(0, 4)", 4).due("inPreorder(0, 5)", 7).due("inPreorder(0, 6)", 5)
+            .due("add(0, 0, 3, 3, 4)", 8).due("inPreorder(0, 8)", 8).due("inPreorder(0, 7)", 6).due("add(0, 1, 2, 3, 5)", 9)
+            .due("inPreorder(0, 4)", 4).due("inPreorder(0, 5)", 9).due("inPreorder(0, 6)", 7).due("add(0, 0, 0, 3, 6)", 10)
+            .due("inPreorder(0, 1)", 10).due("inPreorder(0, 2)", 1).due("add(0, 4, 0, 3, 7)", 11)
+            .due("inPreorder(0, 6)", 11).due("parentOf(0, 11)", 4).due("parentOf(0, 10)", 0);
     }
 
     private static void addToFullTree() {

@@ -35,6 +35,7 @@ public final class LookingTest {
         each("subtreeSize", 17, 8, 4, 1, 2, 1, 1, 2, 1);
         each("isKeyroot", 18, true, true, false, false, true, false, true, false);
         keyrootsChange();
+        extremes();
         Run.end("LookingTest");
     }
 
@@ -56,6 +57,30 @@ public final class LookingTest {
                 .due(t + "8, 0)", Run.INDEX).due(t + "-1, 0)", Run.INDEX).due(t + "0, 2147483647)", Run.INDEX)
                 .due(t + "0, -2147483648)", Run.INDEX).due("childAt(2, 0, 0)", Run.INDEX)
                 .due("childAt(-1, 0, 0)", Run.INDEX).due("childAt(" + (1 - tree) + ", 0, 0)", Run.INDEX);
+        }
+    }
+
+    /** The ends of what is returned: one node alone, and 12 nodes as a star and as a chain. */
+    private static void extremes() {
+        for (int tree = 0; tree < 2; tree++) {
+            String t = "(" + tree + ", ";
+            new Run("one node alone").after(Grow.tree(tree, "3.99")).due("nodes(" + tree + ")", 1).due("parentOf" + t + "0)", -1)
+                .due("kindOf" + t + "0)", 3).due("labelOf" + t + "0)", 99).due("children" + t + "0)", 0)
+                .due("childAt" + t + "0, 0)", Run.INDEX).due("inPreorder" + t + "0)", 0).due("inPostorder" + t + "0)", 0)
+                .due("subtreeSize" + t + "0)", 1).due("isKeyroot" + t + "0)", true);
+            Run star = new Run("a star").after(Grow.tree(tree, Grow.star("0.0", 11, "0.0"))).due("nodes(" + tree + ")", 12)
+                .due("children" + t + "0)", 11).due("subtreeSize" + t + "0)", 12).due("isKeyroot" + t + "0)", true)
+                .due("isKeyroot" + t + "1)", false).due("inPostorder" + t + "11)", 0).due("inPreorder" + t + "11)", 11);
+            Run chain = new Run("a chain").after(Grow.tree(tree, Grow.chain(12, "0.0"))).due("nodes(" + tree + ")", 12)
+                .due("isKeyroot" + t + "0)", true).due("children" + t + "11)", 0).due("inPostorder" + t + "11)", 0);
+            for (int node = 1; node < 12; node++) {
+                star.due("parentOf" + t + node + ")", 0).due("subtreeSize" + t + node + ")", 1)
+                    .due("isKeyroot" + t + node + ")", node > 1).due("childAt" + t + "0, " + (node - 1) + ")", node)
+                    .due("inPostorder" + t + (node - 1) + ")", node);
+                chain.due("parentOf" + t + node + ")", node - 1).due("subtreeSize" + t + node + ")", 12 - node)
+                    .due("isKeyroot" + t + node + ")", false).due("childAt" + t + (node - 1) + ", 0)", node)
+                    .due("inPostorder" + t + (11 - node) + ")", node).due("children" + t + (node - 1) + ")", 1);
+            }
         }
     }
 

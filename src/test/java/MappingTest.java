@@ -5,6 +5,7 @@ public final class MappingTest {
         firstInPreorder();
         unpairedOnlyIfNeeded();
         zeroPrices();
+        twelvePairs();
         wrongNodes();
         Run.end("MappingTest");
     }
@@ -62,6 +63,25 @@ public final class MappingTest {
         new Run("promise 25, all is free").after("setPrices(0, 0, 0, 0)", "addRoot(0, 0, 0)", "add(0, 0, 0, 0, 1)",
             "addRoot(1, 0, 2)", "add(1, 0, 0, 0, 1)", "add(1, 0, 1, 0, 1)").due("partnerOf(0)", 0).due("partnerOf(1)", 1)
             .due("canBePaired(0, 1)", true).due("canBePaired(0, 2)", true).due("distance()", 0);
+    }
+
+    /** From no pair to 12, the most there can be. */
+    private static void twelvePairs() {
+        for (int nodes = 1; nodes <= 12; nodes++) {
+            Run run = chain("promise 24, chains of 12 and " + nodes, 12, nodes).due("pairs()", nodes)
+                .due("distance()", 12 - nodes).due("partnerOf(" + (nodes - 1) + ")", nodes - 1);
+            if (nodes < 12) {
+                run.due("partnerOf(" + nodes + ")", -1);
+            }
+        }
+        Run full = new Run("promise 25, stars of 12 nodes").after(Grow.backwards(0, Grow.star("1.1", 11, "2.2")))
+            .after(Grow.tree(1, Grow.star("1.1", 11, "2.2"))).due("pairs()", 12).due("partnerOf(0)", 0);
+        for (int node = 1; node < 12; node++) {
+            full.due("partnerOf(" + node + ")", 12 - node).due("canBePaired(" + node + ", " + (12 - node) + ")", true)
+                .due("canBePaired(" + node + ", " + node + ")", node == 6).due("canBePaired(0, " + node + ")", false);
+        }
+        new Run("promise 24, no pair").after(Grow.both(Grow.chain(12, "1.1"), Grow.chain(12, "2.1"))).due("pairs()", 0)
+            .due("partnerOf(0)", -1).due("partnerOf(11)", -1).due("canBePaired(11, 11)", false);
     }
 
     private static void wrongNodes() {

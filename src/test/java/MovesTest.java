@@ -6,6 +6,10 @@ public final class MovesTest {
         oneMove();
         firstTargets();
         nestedMoves();
+        wholeSubtreesUnpaired();
+        oneTargetForOneNode();
+        priceOfMove();
+        manyMoves();
         wrongNodes();
         Run.end("MovesTest");
     }
@@ -92,6 +96,74 @@ public final class MovesTest {
             "add(0, 1, 0, 3, 5)", "add(0, 0, 1, 2, 9)", "addRoot(1, 0, 0)", "add(1, 0, 0, 2, 9)", "add(1, 0, 1, 3, 5)",
             "setPrices(2, 50, 50, 50)").due("movesTo(1)", -1).due("movesTo(2)", 2).due("moves()", 1)
             .due("distance()", 3).due("distanceWithMoves()", 2);
+    }
+
+    private static Run dear(String about, String old, String current, String... more) {
+        return new Run(about).after(Grow.both(old, current, "setPrices(3, 50, 50, 50)")).after(more);
+    }
+
+    /** "A node a whose subtree is unpaired moves to .. b: its subtree is unpaired": a paired child stands against it. */
+    private static void wholeSubtreesUnpaired() {
+        dear("a paired child of a", "0.0(3.9 1.1(2.2))", "0.0(1.1(2.2) 3.9 2.2)").due("distance()", 3).due("partnerOf(2)", -1)
+            .due("partnerOf(3)", 4).due("areEqual(2, 1)", true).due("moves()", 0).due("movesTo(2)", -1).due("movesTo(3)", -1)
+            .due("distanceWithMoves()", 3);
+        dear("a paired child of b", "0.0(1.1(2.2) 3.9 2.2)", "0.0(3.9 1.1(2.2))").due("distance()", 3).due("partnerOf(1)", -1)
+            .due("partnerOf(4)", 3).due("areEqual(1, 2)", true).due("moves()", 0).due("movesTo(1)", -1).due("movesTo(2)", -1)
+            .due("distanceWithMoves()", 3);
+        dear("nothing is paired below", "0.0(1.1(2.2) 3.9)", "0.0(3.9 1.1(2.2))").due("distance()", 4).due("moves()", 1)
+            .due("movesTo(1)", 2).due("movesTo(2)", -1).due("distanceWithMoves()", 1);
+        dear("not equal", "0.0(1.1(2.2) 3.9)", "0.0(3.9 1.1(2.2 2.2))").due("distance()", 5).due("movesTo(1)", -1)
+            .due("movesTo(2)", 3).due("moves()", 1).due("distanceWithMoves()", 4);
+        dear("equal but for a label", "0.0(1.1(2.2) 3.9)", "0.0(3.9 1.1(2.3))").due("distance()", 4).due("moves()", 0)
+            .due("distanceWithMoves()", 4).due("setLabel(1, 3, 2)", 3).due("moves()", 1).due("distanceWithMoves()", 1);
+    }
+
+    /** "No node of its subtree is in the subtree of a node to which another one moves." */
+    private static void oneTargetForOneNode() {
+        dear("two for one", "0.0(2.2 2.2 3.9)", "0.0(3.9 2.2)").due("distance()", 3).due("movesTo(1)", 2).due("movesTo(2)", -1)
+            .due("moves()", 1).due("distanceWithMoves()", 2);
+        dear("a node in the subtree of a target", "0.0(1.1(2.2) 2.2 3.9)", "0.0(3.9 1.1(2.2))").due("distance()", 5)
+            .due("movesTo(1)", 2).due("movesTo(2)", -1).due("movesTo(3)", -1).due("moves()", 1).due("distanceWithMoves()", 2);
+        dear("a node beside the target", "0.0(1.1(2.2) 2.2 3.9)", "0.0(3.9 1.1(2.2) 2.2)").due("distance()", 6)
+            .due("movesTo(1)", 2).due("movesTo(2)", -1).due("movesTo(3)", 4).due("moves()", 2).due("distanceWithMoves()", 2);
+        dear("a target in its subtree", "0.0(2.2 1.1(2.2) 3.9)", "0.0(3.9 1.1(2.2))").due("distance()", 5)
+            .due("movesTo(1)", 3).due("movesTo(2)", -1).due("movesTo(3)", -1).due("moves()", 1).due("distanceWithMoves()", 4);
+        dear("a second one for the second", "0.0(2.2 1.1(2.2) 3.9)", "0.0(3.9 1.1(2.2) 1.1(2.2))").due("distance()", 7)
+            .due("movesTo(1)", 3).due("movesTo(2)", 4).due("movesTo(3)", -1).due("moves()", 2).due("distanceWithMoves()", 3);
+    }
+
+    /** "The price of a move is less than the deleting prices .. and the inserting prices .. together": not as much. */
+    private static void priceOfMove() {
+        for (int price = 0; price <= 50; price++) {
+            boolean moves = price < 7 + 5 + 11 + 2;
+            dear("a move for " + price, "0.0(1.1(2.2) 3.9)", "0.0(3.9 1.1(2.2))", "setPrices(1, 5, 7, 0)", "setPrices(2, 2, 11, 0)",
+                "setMovePrice(" + price + ")").due("distance()", 25).due("moves()", moves ? 1 : 0)
+                .due("movesTo(1)", moves ? 2 : -1).due("distanceWithMoves()", moves ? price : 25);
+        }
+        String[] free = {"setPrices(1, 0, 0, 0)", "setMovePrice(0)"};
+        dear("nothing is saved", "0.0(1.1 3.9)", "0.0(3.9 1.1)", free).due("distance()", 0).due("partnerOf(1)", -1)
+            .due("moves()", 0).due("movesTo(1)", -1).due("distanceWithMoves()", 0).after("setPrices(1, 0, 1, 0)")
+            .due("moves()", 1).due("distance()", 1).due("distanceWithMoves()", 0).after("setPrices(1, 1, 0, 0)")
+            .due("moves()", 1).due("distance()", 1).due("distanceWithMoves()", 0).after("setMovePrice(1)").due("moves()", 0)
+            .due("distanceWithMoves()", 1);
+        dear("the dearest move", "0.0(1.1 3.9)", "0.0(3.9 1.1)", "setPrices(1, 25, 25, 0)", "setMovePrice(50)")
+            .due("distance()", 50).due("moves()", 0).due("distanceWithMoves()", 50).after("setPrices(1, 25, 26, 0)")
+            .due("moves()", 1).due("distance()", 51).due("distanceWithMoves()", 50);
+    }
+
+    /** The children of a star turn round: one stays, ten move. */
+    private static void manyMoves() {
+        Run run = new Run("promise 36, ten moves").after("addRoot(0, 0, 0)", "addRoot(1, 0, 0)", "setPrices(1, 3, 3, 50)");
+        for (int node = 1; node < 12; node++) {
+            run.after("add(0, 0, " + (node - 1) + ", 1, " + node + ")", "add(1, 0, 0, 1, " + node + ")");
+        }
+        run.due("distance()", 60).due("pairs()", 2).due("partnerOf(1)", 1).due("moves()", 10).due("movesTo(0)", -1)
+            .due("movesTo(1)", -1).due("distanceWithMoves()", 10);
+        for (int node = 2; node < 12; node++) {
+            run.due("movesTo(" + node + ")", node);
+        }
+        run.due("setMovePrice(5)", 1).due("moves()", 10).due("distanceWithMoves()", 50).due("setMovePrice(6)", 5)
+            .due("moves()", 0).due("distanceWithMoves()", 60);
     }
 
     private static void wrongNodes() {

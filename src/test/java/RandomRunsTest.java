@@ -37,6 +37,11 @@ public final class RandomRunsTest {
         return (int) ((seed >>> 33) % bound);
     }
 
+    /** The model is asked, since the object answers 512 calls alone. */
+    private int nodes(int tree) {
+        return Integer.parseInt(model.answerOf("nodes", tree));
+    }
+
     private void call(String name, int... arguments) {
         if (calls >= 512) {
             return;
@@ -51,12 +56,12 @@ public final class RandomRunsTest {
     }
 
     private void grow(int tree) {
-        if (comparer.nodes(tree) == 0) {
+        if (nodes(tree) == 0) {
             call("addRoot", tree, below(kinds), below(labels));
         }
-        for (int n = comparer.nodes(tree); n < most && calls < 450; n++) {
+        for (int n = nodes(tree); n < most && calls < 450; n++) {
             int parent = shape == 0 ? below(n) : shape == 1 ? Math.max(0, n - 1 - below(3)) : below(Math.min(n, 3));
-            int place = below(comparer.children(tree, parent) + 1);
+            int place = below(Integer.parseInt(model.answerOf("children", tree, parent)) + 1);
             call("add", tree, parent, place, below(kinds), below(labels));
         }
     }
@@ -65,7 +70,7 @@ public final class RandomRunsTest {
         String change = CHANGES[below(below(6) == 0 ? CHANGES.length : 3)];
         int tree = below(2);
         if (change.startsWith("setLabel")) {
-            call("setLabel", tree, below(comparer.nodes(tree) + 1), below(labels));
+            call("setLabel", tree, below(nodes(tree) + 1), below(labels));
         } else if (change.startsWith("setPrices")) {
             call("setPrices", below(kinds), below(prices), below(prices), below(prices));
         } else if (change.startsWith("setMovePrice")) {
@@ -73,7 +78,7 @@ public final class RandomRunsTest {
         } else {
             random(change);
         }
-        if (comparer.nodes(tree) < most && below(2) == 0) {
+        if (nodes(tree) < most && below(2) == 0) {
             grow(tree);
         }
     }

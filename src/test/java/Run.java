@@ -1,7 +1,9 @@
 import java.lang.reflect.InvocationTargetException;
 import java.lang.reflect.Method;
 import java.util.ArrayList;
+import java.util.HashMap;
 import java.util.List;
+import java.util.Map;
 
 /**
  * A run of calls on a new TreeComparer, each told as text, such as "add(0, 0, 1, 3, 7)", with the answer
@@ -13,29 +15,34 @@ final class Run {
     static final String ARGUMENT = "throws.IllegalArgumentException";
     static final String STATE = "throws.IllegalStateException";
 
-    private static final Method[] METHODS = TreeComparer.class.getDeclaredMethods();
+    /** What an object answers to more calls is free, so no test may ask it. */
+    static final int MOST_CALLS = 512;
+
+    private static final Map<String, Method> METHODS = new HashMap<>();
     private static int asked = 0;
     private static int wrong = 0;
 
     private final String about;
     private final TreeComparer comparer = new TreeComparer();
     private final List<String> changes = new ArrayList<>();
+    private int calls = 0;
 
     Run(String about) {
         this.about = about;
     }
 
-    /** Makes calls whose answers do not matter. */
-    Run after(String... calls) {
-        for (String call : calls) {
-            answerOf(comparer, call);
+    /** Makes changes whose answers do not matter, but that they are not refused. */
+    Run after(String... changing) {
+        for (String call : changing) {
+            String answer = make(call);
+            compare(about, call + " is refused", "" + answer.startsWith("throws."), "false");
             changes.add(call);
         }
         return this;
     }
 
     Run due(String call, Object due) {
-        String answer = answerOf(comparer, call);
+        String answer = make(call);
         compare(about, call, answer, String.valueOf(due));
         if (answer.startsWith("throws.")) {
             compare(about, "what is left after " + call, Snapshot.after(changes, call), Snapshot.after(changes));
@@ -43,6 +50,23 @@ final class Run {
             changes.add(call);
         }
         return this;
+    }
+
+    private String make(String call) {
+        calls++;
+        if (calls > MOST_CALLS) {
+            throw new IllegalStateException(about + " makes more calls than an object answers");
+        }
+        return answerOf(comparer, call);
+    }
+
+    /** The answer of a new object to a call after some others. */
+    static String answerAfter(String[] before, String call) {
+        TreeComparer fresh = new TreeComparer();
+        for (String earlier : before) {
+            answerOf(fresh, earlier);
+        }
+        return answerOf(fresh, call);
     }
 
     private static boolean isChange(String call) {
@@ -85,11 +109,14 @@ final class Run {
     }
 
     private static Method methodNamed(String name) {
-        for (Method method : METHODS) {
-            if (method.getName().equals(name)) {
-                return method;
+        if (METHODS.isEmpty()) {
+            for (Method method : TreeComparer.class.getMethods()) {
+                METHODS.put(method.getName(), method);
             }
         }
-        throw new IllegalArgumentException("no method " + name);
+        if (!METHODS.containsKey(name)) {
+            throw new IllegalArgumentException("no method " + name);
+        }
+        return METHODS.get(name);
     }
 }

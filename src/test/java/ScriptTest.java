@@ -16,6 +16,8 @@ public final class ScriptTest {
         forests();
         deepForests();
         edges();
+        relabellings();
+        onlyOneKindOfStep();
         wrongSteps();
         Run.end("ScriptTest");
     }
@@ -92,6 +94,46 @@ public final class ScriptTest {
             .due("depthAfter(0, 11)", 11).due("labelAfter(24, 11)", 61).due("depthAfter(24, 11)", 1)
             .due("labelAfter(12, 0)", Run.INDEX).due("depthAfter(12, 0)", Run.INDEX).due("labelAfter(13, 0)", 50)
             .due("stepKind(24)", Run.INDEX).due("sizeAfter(25)", Run.INDEX).due("stepKind(23)", 2).due("stepKind(11)", 0);
+    }
+
+    /** Each of 12 nodes is relabelled, in preorder: a node has its own label up to its step, its partner's after it. */
+    private static void relabellings() {
+        Run run = new Run("promises 28 to 32, 12 relabellings").after(Grow.backwards(0, Grow.star("0.1", 11, "1.2")))
+            .after(Grow.tree(1, Grow.star("0.51", 11, "1.52"))).after("setPrices(1, 9, 9, 5)").due("steps()", 12)
+            .due("stepNode(0)", 0).due("stepPrice(0)", 1).due("distance()", 56).due("stepKind(12)", Run.INDEX);
+        for (int n = 1; n < 12; n++) {
+            run.due("stepKind(" + n + ")", TreeComparer.RELABEL).due("stepNode(" + n + ")", 12 - n).due("stepPrice(" + n + ")", 5);
+        }
+        for (int n = 0; n <= 12; n++) {
+            run.due("sizeAfter(" + n + ")", 12);
+            for (int place = 0; place < 12; place++) {
+                run.due("labelAfter(" + n + ", " + place + ")", (place == 0 ? 1 : 2) + (place < n ? 50 : 0));
+            }
+            run.due("depthAfter(" + n + ", 0)", 0).due("depthAfter(" + n + ", 11)", 1);
+        }
+    }
+
+    private static void onlyOneKindOfStep() {
+        Run deleting = new Run("promises 31 to 33, a chain is deleted from below").after(Grow.tree(0, "0.1(0.2(0.3))"));
+        forest(deleting, 0, "1:0 2:1 3:2");
+        forest(deleting, 1, "1:0 2:1");
+        forest(deleting, 2, "1:0");
+        deleting.due("sizeAfter(3)", 0).due("labelAfter(3, 0)", Run.INDEX).due("depthAfter(3, 0)", Run.INDEX);
+        Run inserting = new Run("promises 31 to 33, a chain is inserted from above").after(Grow.tree(1, "0.1(0.2(0.3))"))
+            .due("sizeAfter(0)", 0).due("labelAfter(0, 0)", Run.INDEX).due("depthAfter(0, 0)", Run.INDEX);
+        forest(inserting, 1, "1:0");
+        forest(inserting, 2, "1:0 2:1");
+        forest(inserting, 3, "1:0 2:1 3:2");
+        Run between = new Run("promise 33, a node is inserted above others").after(Grow.both("0.1(1.2(1.3))", "0.1(2.9(1.2(2.8(1.3))))"));
+        forest(between, 0, "1:0 2:1 3:2");
+        forest(between, 1, "1:0 9:1 2:2 3:3");
+        forest(between, 2, "1:0 9:1 2:2 8:3 3:4");
+        between.after("swapTrees()");
+        forest(between, 0, "1:0 9:1 2:2 8:3 3:4");
+        forest(between, 1, "1:0 9:1 2:2 3:3");
+        forest(between, 2, "1:0 2:1 3:2");
+        Run brothers = new Run("promise 33, a brother is no ancestor").after(Grow.both("0.1(1.2(1.3) 1.4)", "0.1(1.2(1.3) 1.4)"));
+        forest(brothers, 0, "1:0 2:1 3:2 4:1");
     }
 
     private static void wrongSteps() {

@@ -89,5 +89,12 @@ public final class DistancesTest {
             .after("addRoot(1, 0, 0)").due("similarity()", 1.0).after("add(0, 0, 0, 1, 1)")
             .due("similarity()", 1.0 - 1.0 / 3.0).after("setPrices(1, 0, 0, 0)", "clear(1)").due("similarity()", 0.0)
             .after("setPrices(0, 0, 0, 0)").due("similarity()", 1.0);
+        new Run("promise 23, only deleting costs").after("setPrices(0, 0, 50, 50)", "addRoot(1, 0, 0)").due("similarity()", 1.0)
+            .after("swapTrees()").due("similarity()", 0.0).after("addRoot(1, 0, 1)").due("similarity()", 0.0)
+            .after("setPrices(0, 0, 50, 49)").due("similarity()", 1.0 - 49.0 / 50.0).after("setPrices(0, 0, 50, 0)")
+            .due("similarity()", 1.0).after("setPrices(0, 0, 0, 50)").due("similarity()", 1.0);
+        new Run("promise 23, the greatest cost").after(Grow.both(Grow.chain(12, "0.0"), Grow.star("1.0", 11, "1.0"),
+            "setPrices(0, 50, 50, 50)", "setPrices(1, 50, 50, 50)")).due("similarity()", 0.0).after("clear(1)", "addRoot(1, 0, 0)")
+            .due("similarity()", 1.0 - 550.0 / 650.0);
     }
 }
